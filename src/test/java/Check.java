@@ -20,7 +20,7 @@ final class Check {
         made++;
         if (!is) {
             wrong++;
-            System.out.println(part + ": " + what);
+            System.out.println(part + ": it does not hold that " + what);
         }
     }
 
