@@ -713,9 +713,9 @@ public final class SwingUnits {
 
         private void shareOut(Orders leaving, int due) {
             long left = allowed;
-            int to;
-            for (int from = 0; from < due; from = to) {
-                to = from + 1;
+            int from = 0;
+            while (from < due) {
+                int to = from + 1;
                 while (to < due && leaving.days[to] == leaving.days[from]) {
                     to++;
                 }
@@ -723,6 +723,7 @@ public final class SwingUnits {
                 long given = Math.min(ofDay, left);
                 shareOutDay(leaving, from, to, ofDay, given);
                 left -= given;
+                from = to;
             }
         }
 

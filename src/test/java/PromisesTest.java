@@ -544,6 +544,25 @@ public final class PromisesTest {
         due("ofHolder(3, 0)", x.ofHolder(3, 0), 0);
         due("ofHolder(4, 0)", x.ofHolder(4, 0), 99990000);
 
+        partWithLots("promise 6, one unit too many", 10000, 1);
+        x.quote(1);
+        x.set(SWING, 100);
+        for (int i = 0; i < 8; i++) {
+            x.buy(1, 1000000, 0);
+        }
+        x.buy(1, 999999, 0);
+        x.buy(1, 999999, 0);
+        x.buy(1, 11, 0);
+        // 909091720 so far, and 100; the next would make it 1000000001
+        x.buy(2, 999990, 0);
+        x.buy(3, 999989, 0);
+        due("price(1)", x.price(1), 11);
+        x.endDay();
+        due("lastDay(0)", x.lastDay(0), 909091720 + 90908090);
+        due("lastDay(5)", x.lastDay(5), 999990);
+        due("ofHolder(2, 0)", x.ofHolder(2, 0), 0);
+        due("ofHolder(3, 0)", x.ofHolder(3, 0), 90908090);
+
         partWithUnits("promise 6, a price of 0");
         x.set(COST, 0);
         x.quote(10000);
@@ -963,6 +982,29 @@ public final class PromisesTest {
         x.trade(945);
         x.leave(0, 100, 0);
         due("fairSwing()", x.fairSwing(), NONE);
+
+        partWithLots("promise 17, 100 is the last", 10, 1000);
+        x.quote(10);
+        x.leave(0, 10, 0);
+        due("fairSwing()", x.fairSwing(), 100);
+
+        partWithLots("promise 17, 101 is too much", 100, 100);
+        x.quote(9);
+        x.leave(0, 10, 0);
+        due("fairSwing()", x.fairSwing(), NONE);
+    }
+
+    /** 100 units, so many lots, no cash, the highest cost. */
+    private static void partWithLots(String name, int quote, int lots) {
+        part(name);
+        x.buy(0, 10000, 0);
+        x.endDay();
+        x.set(COST, 0);
+        x.quote(quote);
+        x.trade(lots);
+        x.set(COST, 50);
+        x.set(GATE, 1000);
+        due("count(0)", x.count(0), 0);
     }
 
     private static void put() {
