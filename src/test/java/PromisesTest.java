@@ -1235,15 +1235,7 @@ public final class PromisesTest {
     }
 
     private static void undoEachChange() {
-        partWithOldUnits("promise 22, each change is undone");
-        x.income(20000);
-        x.buy(2, 60000, 0);
-        x.buy(2, 5, 0);
-        x.endDay();
-        x.set(COST, 0);
-        x.trade(100);
-        x.leave(0, 3000, 0);
-        x.save(1);
+        partWithEverything();
         String before = all();
         x.set(GATE, 7);
         dueUndone("set", before);
@@ -1278,25 +1270,20 @@ public final class PromisesTest {
         CHECK.holds(name + " changes something", !all().equals(before));
         x.undo();
         CHECK.holds(name + " is undone", all().equals(before));
-        // A copy of all that there is takes many calls; the promise ends with the 512th.
-        x = copyForUndo();
+        // To look at all that there is takes many calls, and the promise ends with the 512th.
+        partWithEverything();
     }
 
-    private static SwingUnits copyForUndo() {
-        SwingUnits y = new SwingUnits();
-        y.buy(0, 600000, 0);
-        y.buy(1, 400000, 0);
-        y.endDay();
-        y.pay();
-        y.income(20000);
-        y.buy(2, 60000, 0);
-        y.buy(2, 5, 0);
-        y.endDay();
-        y.set(COST, 0);
-        y.trade(100);
-        y.leave(0, 3000, 0);
-        y.save(1);
-        return y;
+    private static void partWithEverything() {
+        partWithOldUnits("promise 22, each change is undone");
+        x.income(20000);
+        x.buy(2, 60000, 0);
+        x.buy(2, 5, 0);
+        x.endDay();
+        x.set(COST, 0);
+        x.trade(100);
+        x.leave(0, 3000, 0);
+        x.save(1);
     }
 
     private static String all() {
