@@ -1,12 +1,5 @@
 /** A part for each promise of the document, with answers that were worked out by hand from its words. */
-public final class PromisesTest {
-    private static final int NO_SUCH = -1, BAD_VALUE = -2, BAD_TEXT = -3, TOO_MANY = -4, NOT_POSSIBLE = -5, NONE = -6;
-    private static final int CUT = 0, THRESHOLD = 1, SWING = 2, GATE = 3, COST = 4;
-    private static final int LEAST = Integer.MIN_VALUE, MOST = Integer.MAX_VALUE;
-
-    private static final Check CHECK = new Check();
-    private static SwingUnits x;
-
+public final class PromisesTest extends Scene {
     public static void main(String[] args) {
         constants();
         newObject();
@@ -44,53 +37,22 @@ public final class PromisesTest {
 
     private static void part(String name) {
         CHECK.part(name);
-        x = new SwingUnits();
+        fresh();
     }
 
-    private static void due(String call, long got, long want) {
-        CHECK.due(call, got, want);
-    }
-
-    /** Two holders with 6000 and 4000 new units, 1000000 in cash, a middle price of 100000, day 1. */
     private static void partWithUnits(String name) {
-        part(name);
-        x.buy(0, 600000, 0);
-        x.buy(1, 400000, 0);
-        x.endDay();
+        CHECK.part(name);
+        withUnits();
     }
 
-    /** The same, and all units are old ones. */
     private static void partWithOldUnits(String name) {
-        partWithUnits(name);
-        x.pay();
+        CHECK.part(name);
+        withOldUnits();
     }
 
-    private static void write(String text) {
-        for (int from = 0; from < text.length(); from += 8) {
-            x.put(packed(text.substring(from, Math.min(from + 8, text.length()))));
-        }
-    }
-
-    private static long packed(String text) {
-        long packed = 0;
-        for (int i = 0; i < text.length(); i++) {
-            packed = packed << 8 | text.charAt(i);
-        }
-        return packed;
-    }
-
-    private static void dueOrder(int kind, int order, int holder, int size, int day) {
-        String name = "order(" + kind + ", " + order + ", ";
-        due(name + "0)", x.order(kind, order, 0), holder);
-        due(name + "1)", x.order(kind, order, 1), size);
-        due(name + "2)", x.order(kind, order, 2), day);
-    }
-
-    private static void dueDay(int made, int left, int sold, int swung, int waiting, int givenBack) {
-        int[] want = {made, left, sold, swung, waiting, givenBack};
-        for (int what = 0; what < want.length; what++) {
-            due("lastDay(" + what + ")", x.lastDay(what), want[what]);
-        }
+    private static void partWithLots(String name, int quote, int lots) {
+        CHECK.part(name);
+        withLots(quote, lots);
     }
 
     private static void constants() {
@@ -994,19 +956,6 @@ public final class PromisesTest {
         due("fairSwing()", x.fairSwing(), NONE);
     }
 
-    /** 100 units, so many lots, no cash, the highest cost. */
-    private static void partWithLots(String name, int quote, int lots) {
-        part(name);
-        x.buy(0, 10000, 0);
-        x.endDay();
-        x.set(COST, 0);
-        x.quote(quote);
-        x.trade(lots);
-        x.set(COST, 50);
-        x.set(GATE, 1000);
-        due("count(0)", x.count(0), 0);
-    }
-
     private static void put() {
         part("promise 18, put");
         due("put d", x.put('d'), 1);
@@ -1235,8 +1184,9 @@ public final class PromisesTest {
     }
 
     private static void undoEachChange() {
-        partWithEverything();
-        String before = all();
+        CHECK.part("promise 22, each change is undone");
+        withEverything();
+        String before = state();
         x.set(GATE, 7);
         dueUndone("set", before);
         x.buy(1, 5, 0);
@@ -1259,52 +1209,19 @@ public final class PromisesTest {
         x.carryOut();
         dueUndone("carryOut", before);
         x.endDay();
-        String changed = all();
+        String changed = state();
         x.restore(1);
-        CHECK.holds("restore brings all back", all().equals(before));
+        CHECK.holds("restore brings all back", state().equals(before));
         x.undo();
-        CHECK.holds("restore is undone", all().equals(changed));
+        CHECK.holds("restore is undone", state().equals(changed));
     }
 
     private static void dueUndone(String name, String before) {
-        CHECK.holds(name + " changes something", !all().equals(before));
+        CHECK.holds(name + " changes something", !state().equals(before));
         x.undo();
-        CHECK.holds(name + " is undone", all().equals(before));
+        CHECK.holds(name + " is undone", state().equals(before));
         // To look at all that there is takes many calls, and the promise ends with the 512th.
-        partWithEverything();
-    }
-
-    private static void partWithEverything() {
-        partWithOldUnits("promise 22, each change is undone");
-        x.income(20000);
-        x.buy(2, 60000, 0);
-        x.buy(2, 5, 0);
-        x.endDay();
-        x.set(COST, 0);
-        x.trade(100);
-        x.leave(0, 3000, 0);
-        x.save(1);
-    }
-
-    private static String all() {
-        StringBuilder all = new StringBuilder();
-        for (int what = 0; what < 17; what++) {
-            all.append(x.count(what)).append(' ');
-        }
-        for (int holder = 0; holder < 4; holder++) {
-            for (int what = 0; what < 9; what++) {
-                all.append(x.ofHolder(holder, what)).append(' ');
-            }
-        }
-        for (int order = 0; order < 3; order++) {
-            for (int what = 0; what < 3; what++) {
-                all.append(x.order(0, order, what)).append(' ').append(x.order(1, order, what)).append(' ');
-            }
-        }
-        for (int what = 0; what < 6; what++) {
-            all.append(x.lastDay(what)).append(' ').append(what < 4 ? x.price(what) : 0).append(' ');
-        }
-        return all.toString();
+        withEverything();
     }
 
     private static void save() {
