@@ -238,6 +238,16 @@ public final class EdgesOfPromisesTest extends Edges {
             due("count(4)", x.count(4), 0);
             due("price(0)", x.price(0), 100000);
         });
+        edge("inKind of the only unit", gets, () -> {
+            x.buy(0, 100, 0);
+            x.endDay();
+            x.set(COST, 0);
+            x.quote(30);
+            x.trade(3);
+            due("inKind(0, 1)", x.inKind(0, 1), 3);
+            due("ofHolder(0, 5)", x.ofHolder(0, 5), 10);
+            due("count(4)", x.count(4), 0);
+        });
         edge("inKind with fewer units than a lot has", gets, () -> {
             withUnits();
             x.set(COST, 0);
@@ -503,6 +513,15 @@ public final class EdgesOfPromisesTest extends Edges {
             x.inKind(0, 1000);
             due("ofHolder(0, 0)", x.ofHolder(0, 0), 5000);
             due("ofHolder(0, 8)", x.ofHolder(0, 8), 90);
+        });
+        edge("lots of several exits in kind", "8 lots that were got in kind so far", () -> {
+            withUnits();
+            x.set(COST, 0);
+            x.trade(500);
+            due("inKind(0, 1000)", x.inKind(0, 1000), 50);
+            due("inKind(0, 100)", x.inKind(0, 100), 5);
+            due("inKind(0, 1)", x.inKind(0, 1), 0);
+            due("ofHolder(0, 8)", x.ofHolder(0, 8), 55);
         });
         edge("amounts that were given back bought no units", "4 amounts that bought units so far", () -> {
             withUnits();
@@ -778,7 +797,7 @@ public final class EdgesOfPromisesTest extends Edges {
             withEverything();
             x.buy(1, 1000000, 0);
             String before = all();
-            due("exitIn(0)", x.exitIn(0), 3);
+            due("exitIn(0), 858 of 2000 and then the rest", x.exitIn(0), 2);
             CHECK.holds("all is as before", all().equals(before));
         });
         edge("exitIn with orders to buy that are there", "if nothing else comes", () -> {
@@ -1059,7 +1078,7 @@ public final class EdgesOfPromisesTest extends Edges {
             String before = state();
             change.run();
             CHECK.holds("something is changed", !state().equals(before));
-            due("undo()", x.undo(), 3);
+            due("undo()", x.undo(), 5);
             CHECK.holds("all is as before", state().equals(before));
         });
     }

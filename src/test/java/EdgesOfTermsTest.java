@@ -144,7 +144,7 @@ public final class EdgesOfTermsTest extends Edges {
         unchangedBy("trade", () -> {
             due("trade(0)", x.trade(0), BAD_VALUE);
             due("trade(901)", x.trade(901), TOO_MANY);
-            due("trade(-101)", x.trade(-101), NOT_POSSIBLE);
+            due("trade(-1000)", x.trade(-1000), NOT_POSSIBLE);
         });
         unchangedBy("income", () -> {
             due("income(0)", x.income(0), BAD_VALUE);
@@ -696,6 +696,18 @@ public final class EdgesOfTermsTest extends Edges {
             x.inKind(2, 98);
             due("count(7)", x.count(7), 147);
         });
+        edge("the evening of the only new unit goes", evening, () -> {
+            withOldUnits();
+            x.income(20000);
+            x.buy(2, 102, 0);
+            x.endDay();
+            due("count(5)", x.count(5), 1);
+            due("count(7)", x.count(7), 2);
+            x.leave(2, 1, 0);
+            x.endDay();
+            due("count(5)", x.count(5), 0);
+            due("count(7)", x.count(7), 0);
+        });
         edge("new units without evening go", evening, () -> {
             withUnits();
             x.leave(0, 500, 0);
@@ -788,6 +800,15 @@ public final class EdgesOfTermsTest extends Edges {
             due("pay()", x.pay(), 10000);
             due("ofHolder(0, 6)", x.ofHolder(0, 6), 6000);
             due("ofHolder(0, 7)", x.ofHolder(0, 7), 0);
+        });
+        edge("a payment with one new unit", evening, () -> {
+            withOldUnits();
+            x.income(20000);
+            x.buy(2, 102, 0);
+            x.endDay();
+            x.pay();
+            due("ofHolder(2, 6)", x.ofHolder(2, 6), 2);
+            due("ofHolder(2, 7)", x.ofHolder(2, 7), 2);
         });
         edge("a payment without units", evening, () -> {
             due("pay()", x.pay(), 0);

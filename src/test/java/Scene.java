@@ -59,13 +59,17 @@ abstract class Scene {
         due("price(0)", x.price(0), 10);
     }
 
-    /** Something of all that there is, by 3 changes only; the same is saved in slot 1. */
+    /** Something of all that there is, by 5 changes; the same is saved in slot 1. */
     static void withEverything() {
         fresh();
-        write("b0:600000;b1:400000;d;p;i20000;b2:60000;b2:5;d;l0:3000");
+        write("b0:600000;b1:400000;d;p;i20000;b2:60000;b2:5;d");
         x.carryOut();
         x.set(COST, 0);
-        x.trade(100);
+        x.trade(1000);
+        // 80000 are left in cash: lots are sold for those who leave
+        write("l0:1000;d;l0:2000");
+        x.carryOut();
+        x.inKind(1, 1000);
         x.save(1);
     }
 
