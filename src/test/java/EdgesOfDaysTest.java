@@ -11,6 +11,7 @@ public final class EdgesOfDaysTest extends Edges {
         whatComesIn();
         whatMayLeave();
         netFlow();
+        bigFlow();
         priceOfTheDay();
         sharesOfADay();
         sharesOfSeveralDays();
@@ -173,6 +174,32 @@ public final class EdgesOfDaysTest extends Edges {
             due("price(1)", x.price(1), 101000);
             x.set(THRESHOLD, 1000);
             due("price(1)", x.price(1), 101000);
+        });
+    }
+
+    private static void bigFlow() {
+        edge("a threshold beyond the ints", "1000 times it is above THRESHOLD * the value", () -> {
+            withUnits();
+            x.set(THRESHOLD, 1000);
+            for (int i = 0; i < 3; i++) {
+                x.income(1000000);
+            }
+            for (int i = 0; i < 4; i++) {
+                x.buy(2, 1000000, 0);
+                due("price(1), of 4000000", x.price(1), 400000);
+            }
+            x.buy(2, 1, 0);
+            due("price(1)", x.price(1), 404000);
+        });
+        edge("what goes out is beyond the ints on the way", "less the units that may leave * the middle price / 1000.", () -> {
+            withUnits();
+            x.set(GATE, 1000);
+            for (int i = 0; i < 3; i++) {
+                x.income(1000000);
+            }
+            x.leave(0, 6000, 0);
+            x.leave(1, 4000, 0);
+            due("price(1)", x.price(1), 396000);
         });
     }
 
@@ -433,7 +460,8 @@ public final class EdgesOfDaysTest extends Edges {
             withPlainLots();
             x.leave(0, 1000, 0);
             x.endDay();
-            dueDay(0, 1000, 0, 1, 0, 0);
+            due("lastDay(1)", x.lastDay(1), 1000);
+            due("lastDay(2)", x.lastDay(2), 0);
             due("count(0)", x.count(0), 0);
             due("count(1)", x.count(1), 900);
         });
@@ -469,7 +497,8 @@ public final class EdgesOfDaysTest extends Edges {
             x.leave(0, 6000, 0);
             x.leave(1, 4000, 0);
             x.endDay();
-            dueDay(0, 10000, 900, 1, 0, 0);
+            due("lastDay(1)", x.lastDay(1), 10000);
+            due("lastDay(2)", x.lastDay(2), 900);
             due("count(0)", x.count(0), 0);
             due("count(1)", x.count(1), 0);
         });
@@ -574,7 +603,8 @@ public final class EdgesOfDaysTest extends Edges {
             x.set(SWING, 0);
             x.endDay();
             due("price(2)", x.price(2), 10000);
-            dueDay(0, 0, 1000, 1, 100, 0);
+            due("lastDay(1)", x.lastDay(1), 0);
+            due("lastDay(2)", x.lastDay(2), 1000);
             due("count(0)", x.count(0), 0);
             due("count(3)", x.count(3), 0);
         });
@@ -585,7 +615,9 @@ public final class EdgesOfDaysTest extends Edges {
             x.set(SWING, 0);
             x.buy(1, 90, 0);
             x.endDay();
-            dueDay(9, 0, 1000, 1, 100, 0);
+            due("lastDay(0)", x.lastDay(0), 9);
+            due("lastDay(1)", x.lastDay(1), 0);
+            due("lastDay(4)", x.lastDay(4), 100);
             due("count(0)", x.count(0), 90);
         });
         edge("a cent too little behind all lots", neither, () -> {
@@ -596,7 +628,9 @@ public final class EdgesOfDaysTest extends Edges {
             x.leave(2, 999990000, 0);
             x.leave(0, 100, 0);
             x.endDay();
-            dueDay(0, 999990000, 100, 1, 100, 0);
+            due("lastDay(1)", x.lastDay(1), 999990000);
+            due("lastDay(2)", x.lastDay(2), 100);
+            due("lastDay(4)", x.lastDay(4), 100);
             due("count(0)", x.count(0), 0);
             due("count(1)", x.count(1), 0);
         });
@@ -704,7 +738,8 @@ public final class EdgesOfDaysTest extends Edges {
             x.buy(4, 1, 0);
             x.endDay();
             due("price(2)", x.price(2), 0);
-            dueDay(0, 0, 0, 3, 0, 1000001);
+            due("lastDay(0)", x.lastDay(0), 0);
+            due("lastDay(5)", x.lastDay(5), 1000001);
             due("count(0)", x.count(0), 0);
             due("count(9)", x.count(9), 0);
         });

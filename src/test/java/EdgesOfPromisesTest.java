@@ -456,6 +456,24 @@ public final class EdgesOfPromisesTest extends Edges {
             x.inKind(1, 4000);
             due("income(1)", x.income(1), NOT_POSSIBLE);
         });
+        edge("income when all have left, and cash is left", none, () -> {
+            withUnits();
+            x.set(GATE, 1000);
+            x.leave(0, 6000, 0);
+            x.leave(1, 4000, 0);
+            x.endDay();
+            due("count(0)", x.count(0), 10000);
+            due("income(1)", x.income(1), NOT_POSSIBLE);
+            due("count(0)", x.count(0), 10000);
+        });
+        edge("income with units without value", none, () -> {
+            withPennies();
+            x.set(COST, 50);
+            x.trade(-100);
+            due("count(3)", x.count(3), 0);
+            due("income(10)", x.income(10), 10);
+            due("price(3)", x.price(3), 1);
+        });
         edge("income with one unit", none, () -> {
             x.buy(0, 100, 0);
             x.endDay();
@@ -472,6 +490,21 @@ public final class EdgesOfPromisesTest extends Edges {
             withUnits();
             due("pay()", x.pay(), 0);
             due("count(0)", x.count(0), 1000000);
+        });
+        edge("pay beyond the ints on the way", all, () -> {
+            withOldUnits();
+            for (int i = 0; i < 5; i++) {
+                x.income(1000000);
+            }
+            due("pay(), 500000 times 10000", x.pay(), 5000000);
+            due("ofHolder(0, 6)", x.ofHolder(0, 6), 3000000);
+            due("ofHolder(0, 7)", x.ofHolder(0, 7), 0);
+        });
+        edge("evening beyond the ints on the way", all, () -> {
+            withMuchEvening();
+            x.pay();
+            due("ofHolder(2, 6)", x.ofHolder(2, 6), 2500000);
+            due("ofHolder(2, 7)", x.ofHolder(2, 7), 2500000);
         });
         edge("pay of too little for a unit", all, () -> {
             withUnits();
@@ -667,6 +700,19 @@ public final class EdgesOfPromisesTest extends Edges {
             dueDay(0, 1, 0, 2, 0, 0);
             x.endDay();
             dueDay(0, 0, 0, 2, 0, 0);
+        });
+        // The document leaves open what a swing by nothing is; here step 2 tells it, not the price.
+        edge("the price swung by a SWING of 0", "3 how the price swung (1 down, 2 not at all, 3 up)", () -> {
+            withUnits();
+            x.set(SWING, 0);
+            x.buy(2, 50001, 0);
+            x.endDay();
+            due("price(2)", x.price(2), 100000);
+            due("lastDay(3)", x.lastDay(3), 3);
+            x.leave(0, 1000, 0);
+            x.endDay();
+            due("price(2)", x.price(2), 100000);
+            due("lastDay(3)", x.lastDay(3), 1);
         });
         edge("units of later days didn't want to leave", "4 units that wanted to leave and still wait", () -> {
             withUnits();
@@ -1051,7 +1097,10 @@ public final class EdgesOfPromisesTest extends Edges {
             due("restore(0)", x.restore(0), 0);
             due("count(2)", x.count(2), 5);
         });
-        undone("set", () -> x.set(GATE, 7));
+        for (int i = 0; i < 5; i++) {
+            int setting = i;
+            undone("set(" + setting + ", 1)", () -> x.set(setting, 1));
+        }
         undone("buy", () -> x.buy(1, 5, 0));
         undone("leave", () -> x.leave(1, 5, 0));
         undone("inKind", () -> x.inKind(2, 50));
@@ -1061,7 +1110,7 @@ public final class EdgesOfPromisesTest extends Edges {
         undone("income", () -> x.income(5));
         undone("pay", () -> x.pay());
         undone("carryOut", () -> {
-            write("q5;b3:1000;p;d;d");
+            write("q5;b3:1000;p;d;b3:1000000;d");
             x.carryOut();
         });
         undone("restore", () -> {
@@ -1138,12 +1187,36 @@ public final class EdgesOfPromisesTest extends Edges {
             withEverything();
             String before = state();
             x.save(0);
-            write("q5;b3:1000;i5;p;d;l1:7;d");
+            write("q5;b3:1000;i5;p;d;l1:7;b3:1000000;d");
             x.carryOut();
-            x.set(CUT, 1);
+            for (int setting = 0; setting < 5; setting++) {
+                x.set(setting, 1);
+            }
             x.trade(-1);
             x.restore(0);
             CHECK.holds("all is as it was saved", state().equals(before));
+        });
+        edge("full rows of orders are saved", except, () -> {
+            withUnits();
+            for (int i = 0; i < 20; i++) {
+                x.buy(i % 6, 100 + i, i < 10 ? 0 : 12);
+                x.leave(i % 2, 10 + i, i < 5 ? 0 : 12);
+            }
+            x.save(0);
+            x.set(GATE, 1000);
+            x.endDay();
+            x.endDay();
+            due("count(9)", x.count(9), 0);
+            due("count(10)", x.count(10), 0);
+            for (int i = 0; i < 20; i++) {
+                x.buy(3, 7, 0);
+                x.leave(1, 1, 0);
+            }
+            x.restore(0);
+            for (int i = 0; i < 20; i++) {
+                dueOrder(0, i, i % 6, 100 + i, i < 10 ? 1 : 2);
+                dueOrder(1, i, i % 2, 10 + i, i < 5 ? 1 : 2);
+            }
         });
     }
 

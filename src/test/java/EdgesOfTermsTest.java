@@ -652,6 +652,14 @@ public final class EdgesOfTermsTest extends Edges {
             due("count(0)", x.count(0), 218);
             due("count(6)", x.count(6), 0);
         });
+        edge("income beyond the ints goes on the way", "the income pool becomes less by u * that income of a unit / 1000", () -> {
+            withOldUnits();
+            for (int i = 0; i < 5; i++) {
+                x.income(1000000);
+            }
+            x.inKind(0, 6000);
+            due("count(6)", x.count(6), 2000000);
+        });
         String oldFirst = "When u units of a holder go, old ones go first";
         edge("one fewer than the old units go", oldFirst, () -> dueOldFirst(5999, 1, 10));
         edge("as many as the old units go", oldFirst, () -> dueOldFirst(6000, 0, 10));
@@ -666,6 +674,11 @@ public final class EdgesOfTermsTest extends Edges {
             due("ofHolder(0, 2)", x.ofHolder(0, 2), 7);
         });
         String evening = "if v of them are new ones, the evening pool becomes less by v * the evening pool / all new units, as they are ahead of that.";
+        edge("evening beyond the ints goes on the way", evening, () -> {
+            withMuchEvening();
+            x.inKind(2, 10000);
+            due("count(7)", x.count(7), 1500000);
+        });
         edge("no evening goes with old units", evening, () -> {
             withEvening();
             x.leave(0, 900, 0);

@@ -25,6 +25,20 @@ abstract class Scene {
         x.pay();
     }
 
+    /** 10000 old units, and 25000 new ones of holder 2, each with 100000 for evening; 200000 is the middle price. */
+    static void withMuchEvening() {
+        withOldUnits();
+        x.set(THRESHOLD, 1000);
+        x.set(SWING, 0);
+        x.income(1000000);
+        for (int i = 0; i < 5; i++) {
+            x.buy(2, 1000000, 0);
+        }
+        x.endDay();
+        due("count(5)", x.count(5), 25000);
+        due("count(7)", x.count(7), 2500000);
+    }
+
     /** 100 units, so many lots, no cash, the highest cost. */
     static void withLots(int quote, int lots) {
         fresh();
@@ -62,12 +76,12 @@ abstract class Scene {
     /** Something of all that there is, by 5 changes; the same is saved in slot 1. */
     static void withEverything() {
         fresh();
-        write("b0:600000;b1:400000;d;p;i20000;b2:60000;b2:5;d");
+        write("b0:600000;b1:400000;d;p;i20000;b2:60000;b2:5;b3:200;b4:300;d");
         x.carryOut();
         x.set(COST, 0);
         x.trade(1000);
-        // 80000 are left in cash: lots are sold for those who leave
-        write("l0:1000;d;l0:2000");
+        // 80500 are left in cash: lots are sold for those who leave
+        write("l0:1000;b5:5000;b5:5;d;l0:2000;b4:7@23");
         x.carryOut();
         x.inKind(1, 1000);
         x.save(1);
