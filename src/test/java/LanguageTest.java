@@ -26,6 +26,7 @@ public final class LanguageTest {
         "NONE", "CUT", "THRESHOLD", "SWING", "GATE", "COST");
 
     public static void main(String[] args) throws IOException {
+        Check.watch();
         CHECK.part("LANGUAGE.md");
         face();
         classesInside();
@@ -44,6 +45,11 @@ public final class LanguageTest {
             }
         }
         CHECK.holds("the methods that are not private are the document's: " + methods, methods.equals(new TreeSet<>(FACE)));
+        for (Method m : face.getDeclaredMethods()) {
+            CHECK.holds(m.getName() + " is not private with a name of the face", noPrivateOfTheFace(m));
+            CHECK.holds(m.getName() + " has at most seven parameters", m.getParameterCount() <= 7);
+        }
+        CHECK.holds("the face has at most twenty fields beside its constants", fieldsOf(face) <= 20);
         Set<String> fields = new TreeSet<>();
         for (Field f : face.getDeclaredFields()) {
             if (!Modifier.isPrivate(f.getModifiers())) {
@@ -56,8 +62,15 @@ public final class LanguageTest {
             && Modifier.isPublic(constructors[0].getModifiers()) && constructors[0].getParameterCount() == 0);
     }
 
+    private static boolean noPrivateOfTheFace(Method m) {
+        return !Modifier.isPrivate(m.getModifiers()) || FACE.stream().noneMatch(f -> f.contains(" " + m.getName() + "("));
+    }
+
+    private static long fieldsOf(Class<?> one) {
+        return Arrays.stream(one.getDeclaredFields()).filter(f -> !Modifier.isStatic(f.getModifiers())).count();
+    }
+
     private static void classesInside() {
-        Set<String> names = FACE.stream().map(m -> m.substring(m.indexOf(' ') + 1, m.indexOf('('))).collect(Collectors.toSet());
         Class<?>[] inside = SwingUnits.class.getDeclaredClasses();
         CHECK.holds("there are at most twelve classes", inside.length < 12);
         for (Class<?> one : inside) {
@@ -65,9 +78,9 @@ public final class LanguageTest {
             CHECK.holds(one + " is static, and not public or protected", Modifier.isStatic(modifiers)
                 && !Modifier.isPublic(modifiers) && !Modifier.isProtected(modifiers));
             CHECK.holds(one + " has no class inside", one.getDeclaredClasses().length == 0);
-            CHECK.holds(one + " has at most twenty fields", one.getDeclaredFields().length <= 20);
+            CHECK.holds(one + " has at most twenty fields", fieldsOf(one) <= 20);
             for (Method m : one.getDeclaredMethods()) {
-                CHECK.holds(one + ": " + m.getName() + " has no name of the face", !names.contains(m.getName()));
+                CHECK.holds(one + ": " + m.getName() + " is not private with a name of the face", noPrivateOfTheFace(m));
                 CHECK.holds(one + ": " + m.getName() + " has at most seven parameters", m.getParameterCount() <= 7);
             }
             for (Field f : one.getDeclaredFields()) {
@@ -79,16 +92,26 @@ public final class LanguageTest {
 
     private static void source(String text) {
         String code = text.replaceAll("(?s)/\\*.*?\\*/", "").replaceAll("//.*", "");
-        for (String word : List.of("throw", "try", "catch", "synchronized", "assert", "import", "package", "double", "float",
-            "String", "instanceof", "record", "Object")) {
+        for (String word : List.of("throw", "try", "catch", "synchronized", "assert", "package", "Object", "Exception", "Thread",
+            "Random", "Map", "Set", "Stream", "var", "strictfp", "native", "volatile", "transient")) {
             CHECK.holds("the source does without " + word, !Pattern.compile("\\b" + word + "\\b").matcher(code).find());
         }
-        CHECK.holds("the source does without lambdas and method references", !code.contains("->") && !code.contains("::"));
+        CHECK.holds("the source does without method references", !code.contains("::"));
+        CHECK.holds("the source does without lambdas", code.lines().allMatch(l -> !l.contains("->") || l.matches("\\s*(case|default)\\b.*")));
         CHECK.holds("the source has only plain signs", text.chars().allMatch(c -> c == '\n' || c >= 32 && c < 127));
+        CHECK.holds("what is imported is of the library that is listed",
+            code.lines().filter(l -> l.startsWith("import")).allMatch(l -> l.matches("import java\\.util\\.(ArrayList|List|Arrays|Iterator);")));
         Matcher library = Pattern.compile("\\b(System|Arrays|Integer|Long|Math)\\.(\\w+)").matcher(code);
         while (library.find()) {
-            CHECK.holds(library.group() + " is of the library that is listed",
-                library.group().equals("Math.min") || library.group().equals("Math.max") || library.group().equals("System.arraycopy"));
+            CHECK.holds(library.group() + " is of the library that is listed", isListed(library.group(1), library.group(2)));
+        }
+    }
+
+    private static boolean isListed(String owner, String name) {
+        switch (owner) {
+            case "System": return name.equals("arraycopy");
+            case "Arrays": return Set.of("copyOf", "copyOfRange", "fill").contains(name);
+            default: return !name.endsWith("Exact") && !name.equals("random");
         }
     }
 }

@@ -17,6 +17,7 @@ public final class ModelTest {
     }
 
     public static void main(String[] args) {
+        Check.watch();
         int wrong = 0;
         for (long seed = 0; seed < RUNS && wrong == 0; seed++) {
             ModelTest test = new ModelTest(seed);

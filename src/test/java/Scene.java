@@ -1,3 +1,5 @@
+import java.util.function.IntUnaryOperator;
+
 /** What the tests share: the object that is tested, ways to bring it into a state, and ways to look at all of it. */
 abstract class Scene {
     static final int NO_SUCH = -1, BAD_VALUE = -2, BAD_TEXT = -3, TOO_MANY = -4, NOT_POSSIBLE = -5, NONE = -6;
@@ -103,6 +105,12 @@ abstract class Scene {
 
     static void due(String call, long got, long want) {
         CHECK.due(call, got, want);
+    }
+
+    static void dueBad(String call, IntUnaryOperator of, int... values) {
+        for (int value : values) {
+            due(call + " of " + value, of.applyAsInt(value), BAD_VALUE);
+        }
     }
 
     static void dueOrder(int kind, int order, int holder, int size, int day) {
